@@ -245,8 +245,8 @@ public final class LevyPhases {
             return NONE;
         }
         switch (what) {
-            case 0: return asked.instalmentSum(k);
-            case 1: return asked.openOfInstalment(k);
+            case 0: return asked.instalmentSums[k];
+            case 1: return asked.openSums[k];
             default: return asked.lastDayOfInstalment(k);
         }
     }
@@ -335,8 +335,8 @@ public final class LevyPhases {
     }
 
     public double settledShare() {
-        int settled = count(6) + count(7);
-        int all = settled + count(9);
+        int settled = levy.sumOverBegunPhases(6) + levy.sumOverBegunPhases(7);
+        int all = settled + levy.sumOverBegunPhases(9);
         return all == 0 ? 1.0 : (double) settled / (double) all;
     }
 
@@ -522,7 +522,8 @@ public final class LevyPhases {
             for (int i = 0; i < SETTINGS; i++) {
                 settings[i] = other.settings[i];
             }
-            for (int i = 0; i < phaseCount && i < MOST_PHASES; i++) {
+            // The rows of phases that have not come, too: undo leaves them as new as they were.
+            for (int i = 0; i < MOST_PHASES; i++) {
                 phases[i].copyFrom(other.phases[i]);
             }
         }
@@ -535,8 +536,9 @@ public final class LevyPhases {
         int appendPhase() {
             int added = phaseCount;
             if (added < MOST_PHASES) {
-                // An undone phase may have left its numbers in this row.
-                phases[added].clear(rates);
+                for (int i = 0; i < USES; i++) {
+                    phases[added].rates[i] = rates[i];
+                }
                 phaseCount++;
             }
             return added;
@@ -581,8 +583,8 @@ public final class LevyPhases {
         }
 
         boolean breaksWithin(int phase, int days) {
-            int daysToBreak = daysToBreak(phase);
-            return daysToBreak != NONE && daysToBreak <= days;
+            int dayOfBreak = phases[phase].dayOfBreak();
+            return dayOfBreak != NONE && dayOfBreak - day <= days;
         }
 
         /** What is owed does not change by days alone before the break, so today's answer is that day's. */
@@ -594,45 +596,27 @@ public final class LevyPhases {
             return hasPhase(phase) && reasonAgainst(what, phase, 0) == 0;
         }
 
+        /** The first reason that applies, 0 if none does. */
         int reasonAgainst(int what, int phase, int use) {
             Phase asked = phases[phase];
-            switch (what) {
-                case AREA_CHANGE: return asked.hasBegun() ? HAS_BEGUN : 0;
-                case BEGINNING: return reasonAgainstBeginning(asked);
-                case PAYMENT: return reasonAgainstPayment(asked);
-                case LAND: return reasonAgainstLand(asked);
-                default: return reasonAgainstLapse(asked, use);
-            }
-        }
-
-        private int reasonAgainstBeginning(Phase asked) {
-            if (asked.hasBegun()) {
+            boolean beforeBeginning = what == AREA_CHANGE || what == BEGINNING;
+            if (beforeBeginning && asked.hasBegun()) {
                 return HAS_BEGUN;
             }
-            return asked.areaOfAllUses() == 0 ? HAS_NO_AREA : 0;
-        }
-
-        private int reasonAgainstPayment(Phase asked) {
-            if (!asked.hasBegun()) {
+            if (!beforeBeginning && !asked.hasBegun()) {
                 return HAS_NOT_BEGUN;
             }
-            return asked.owed() == 0 ? OWES_NOTHING : 0;
-        }
-
-        private int reasonAgainstLand(Phase asked) {
-            int reason = reasonAgainstPayment(asked);
-            if (reason != 0) {
-                return reason;
+            if (what == BEGINNING && asked.areaOfAllUses() == 0) {
+                return HAS_NO_AREA;
             }
-            return asked.roomForLand(settings[LAND_PERCENT]) == 0 ? NO_ROOM_FOR_LAND : 0;
-        }
-
-        private int reasonAgainstLapse(Phase asked, int use) {
-            if (!asked.hasBegun()) {
-                return HAS_NOT_BEGUN;
+            if ((what == PAYMENT || what == LAND) && asked.owed() == 0) {
+                return OWES_NOTHING;
+            }
+            if (what == LAND && asked.roomForLand(settings[LAND_PERCENT]) == 0) {
+                return NO_ROOM_FOR_LAND;
             }
             boolean tooLate = day > asked.firstDay + settings[DAYS_TO_LAPSE];
-            return tooLate || asked.reliefOfUse(use) == 0 ? NO_RELIEF_OR_TOO_LATE : 0;
+            return what == LAPSE && (tooLate || asked.reliefOfUse(use) == 0) ? NO_RELIEF_OR_TOO_LATE : 0;
         }
 
         int sumOverBegunPhases(int what) {
@@ -662,8 +646,8 @@ public final class LevyPhases {
     }
 
     /**
-     * One phase. Only what has come in is kept: how much is open of an instalment, of lapsed money and of
-     * surcharges follows from it, as money and land always go to them in this order.
+     * One phase. Of instalments it keeps what is open; what is open of lapsed money and of surcharges follows from
+     * what is owed, as lapsed money is due at once, and everything once the phase is broken.
      */
     private static final class Phase {
         final int[] areas;
@@ -671,10 +655,11 @@ public final class LevyPhases {
         /** Today's rates as long as the phase has not begun, and the fixed ones then. */
         final int[] rates;
         final int[] lapsedMoney;
+        final int[] instalmentSums;
+        final int[] openSums;
         int firstDay;
         int daysBetween;
         int instalments;
-        int sumInInstalments;
         int paid;
         int landTaken;
         int surcharge;
@@ -685,24 +670,9 @@ public final class LevyPhases {
             exemptAreas = new int[USES];
             rates = new int[USES];
             lapsedMoney = new int[USES];
+            instalmentSums = new int[MOST_INSTALMENTS];
+            openSums = new int[MOST_INSTALMENTS];
             firstDay = NONE;
-        }
-
-        void clear(int[] todaysRates) {
-            for (int i = 0; i < USES && i < todaysRates.length; i++) {
-                areas[i] = 0;
-                exemptAreas[i] = 0;
-                rates[i] = todaysRates[i];
-                lapsedMoney[i] = 0;
-            }
-            firstDay = NONE;
-            daysBetween = 0;
-            instalments = 0;
-            sumInInstalments = 0;
-            paid = 0;
-            landTaken = 0;
-            surcharge = 0;
-            broken = false;
         }
 
         void copyFrom(Phase other) {
@@ -712,10 +682,13 @@ public final class LevyPhases {
                 rates[i] = other.rates[i];
                 lapsedMoney[i] = other.lapsedMoney[i];
             }
+            for (int k = 0; k < MOST_INSTALMENTS; k++) {
+                instalmentSums[k] = other.instalmentSums[k];
+                openSums[k] = other.openSums[k];
+            }
             firstDay = other.firstDay;
             daysBetween = other.daysBetween;
             instalments = other.instalments;
-            sumInInstalments = other.sumInInstalments;
             paid = other.paid;
             landTaken = other.landTaken;
             surcharge = other.surcharge;
@@ -738,21 +711,36 @@ public final class LevyPhases {
         int startOn(int day, int daysBetweenInstalments) {
             firstDay = day;
             daysBetween = daysBetweenInstalments;
-            sumInInstalments = charge() - relief();
-            instalments = instalmentsFor(sumInInstalments);
-            return owed();
+            int sum = charge() - relief();
+            instalments = instalmentsFor(sum);
+            for (int k = 0; k < instalments && k < MOST_INSTALMENTS; k++) {
+                instalmentSums[k] = partOf(sum, instalments, k);
+                openSums[k] = instalmentSums[k];
+            }
+            return sum;
         }
 
         int takeMoney(int money) {
             int taken = Math.min(money, owed());
             paid += taken;
+            settle(taken);
             return taken;
         }
 
         int takeLand(int value, int landPercent) {
             int taken = Math.min(value, Math.min(owed(), roomForLand(landPercent)));
             landTaken += taken;
+            settle(taken);
             return taken;
+        }
+
+        private void settle(int amount) {
+            int left = amount;
+            for (int k = 0; k < instalments && k < MOST_INSTALMENTS; k++) {
+                int part = Math.min(left, openSums[k]);
+                openSums[k] -= part;
+                left -= part;
+            }
         }
 
         int endRelief(int use) {
@@ -776,7 +764,7 @@ public final class LevyPhases {
         int charge() {
             int sum = 0;
             for (int i = 0; i < USES; i++) {
-                sum += chargeOfUse(i);
+                sum += areas[i] * rates[i];
             }
             return sum;
         }
@@ -784,7 +772,7 @@ public final class LevyPhases {
         int relief() {
             int sum = 0;
             for (int i = 0; i < USES; i++) {
-                sum += reliefOfUse(i);
+                sum += exemptAreas[i] * rates[i] - lapsedMoney[i];
             }
             return sum;
         }
@@ -805,26 +793,12 @@ public final class LevyPhases {
             return sum;
         }
 
-        int settled() {
-            return paid + landTaken;
-        }
-
         int owed() {
-            return hasBegun() ? charge() - relief() + surcharge - settled() : 0;
+            return hasBegun() ? charge() - relief() + surcharge - paid - landTaken : 0;
         }
 
         int roomForLand(int landPercent) {
             return hasBegun() ? Math.max(0, percentOf(landPercent, charge() - relief()) - landTaken) : 0;
-        }
-
-        int instalmentSum(int k) {
-            return partOf(sumInInstalments, instalments, k);
-        }
-
-        int openOfInstalment(int k) {
-            int before = k * partOf(sumInInstalments, instalments, 0);
-            int sum = instalmentSum(k);
-            return sum - Math.max(0, Math.min(sum, settled() - before));
         }
 
         int lastDayOfInstalment(int k) {
@@ -834,7 +808,7 @@ public final class LevyPhases {
         int instalmentsPaidWhole() {
             int whole = 0;
             for (int k = 0; k < instalments && k < MOST_INSTALMENTS; k++) {
-                if (openOfInstalment(k) == 0) {
+                if (openSums[k] == 0) {
                     whole++;
                 }
             }
@@ -848,7 +822,7 @@ public final class LevyPhases {
             int notYetDue = 0;
             for (int k = 0; k < instalments && k < MOST_INSTALMENTS; k++) {
                 if (lastDayOfInstalment(k) > day) {
-                    notYetDue += openOfInstalment(k);
+                    notYetDue += openSums[k];
                 }
             }
             return owed() - notYetDue;
