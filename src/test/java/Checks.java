@@ -1,5 +1,12 @@
-/** Counts what is not as due; every test of the project ends with {@link #finish}. */
-final class Checks {
+import java.io.IOException;
+import java.io.UncheckedIOException;
+import java.nio.file.Files;
+import java.nio.file.Path;
+import java.util.ArrayList;
+import java.util.List;
+
+/** Counts what is not as due; every test of the project extends it and ends with {@link #finish}. */
+abstract class Checks {
     static final String RANGE = "IllegalArgumentException";
     static final String INDEX = "IndexOutOfBoundsException";
     static final String STATE = "IllegalStateException";
@@ -9,10 +16,13 @@ final class Checks {
         long answer();
     }
 
+    private static final List<String> quoted = new ArrayList<>();
     private static int looked = 0;
     private static int wrong = 0;
 
-    private Checks() {
+    /** The words of the document that the answers that follow are due by. */
+    static void sentence(String words) {
+        quoted.add(words);
     }
 
     static void due(String what, long got, long want) {
@@ -25,6 +35,18 @@ final class Checks {
 
     static void dueThrown(String what, String exception, Call call) {
         tell(what, answerOf(call), exception);
+    }
+
+    static void range(String what, Call call) {
+        dueThrown(what, RANGE, call);
+    }
+
+    static void index(String what, Call call) {
+        dueThrown(what, INDEX, call);
+    }
+
+    static void state(String what, Call call) {
+        dueThrown(what, STATE, call);
     }
 
     /** The answer as a text, or the simple name of what is thrown. */
@@ -41,15 +63,31 @@ final class Checks {
         if (!got.equals(want)) {
             wrong++;
             if (wrong <= 50) {
-                System.out.println(what + " answered " + got + ", due is " + want);
+                String by = quoted.isEmpty() ? "" : " (\"" + quoted.get(quoted.size() - 1) + "\")";
+                System.out.println(what + " answered " + got + ", due is " + want + by);
             }
         }
     }
 
-    static void finish(String test) {
+    /** The second argument of a test is the document, in which the quoted words have to stand. */
+    static void finish(String test, String... args) {
+        if (args.length > 1) {
+            lookForQuotes(args[1]);
+        }
         System.out.println(test + ": " + looked + " answers, " + wrong + " not as due");
         if (wrong != 0 || looked == 0) {
             System.exit(1);
+        }
+    }
+
+    private static void lookForQuotes(String document) {
+        try {
+            String words = Files.readString(Path.of(document)).replace("`", "");
+            for (String quote : quoted) {
+                dueTrue("the document says: " + quote, words.contains(quote));
+            }
+        } catch (IOException e) {
+            throw new UncheckedIOException(e);
         }
     }
 }

@@ -10,7 +10,7 @@ import java.util.Set;
 import java.util.TreeSet;
 
 /** The public face of the class, the words that its language leaves out, and the room that its calls take. */
-final class FaceTest {
+final class FaceTest extends Checks {
     private static final String I = "IndexOutOfBoundsException";
     private static final String A = "IllegalArgumentException";
     private static final String S = "IllegalStateException";
@@ -42,7 +42,7 @@ final class FaceTest {
             words(Files.readString(Path.of(args[0])));
         }
         room();
-        Checks.finish("FaceTest");
+        finish("FaceTest");
     }
 
     private static String face(String head, String... thrown) {
@@ -51,7 +51,7 @@ final class FaceTest {
 
     private static void members() {
         Class<?> type = LevyPhases.class;
-        Checks.dueTrue("public and final",
+        dueTrue("public and final",
                 Modifier.isPublic(type.getModifiers()) && Modifier.isFinal(type.getModifiers()));
         Set<String> found = new TreeSet<>();
         Set<String> hidden = new TreeSet<>();
@@ -64,16 +64,16 @@ final class FaceTest {
                 open.add(m.getName());
             }
         }
-        Checks.tell("the methods", found.toString(), new TreeSet<>(Set.of(FACE)).toString());
+        tell("the methods", found.toString(), new TreeSet<>(Set.of(FACE)).toString());
         for (Class<?> inner : type.getDeclaredClasses()) {
-            Checks.dueTrue(inner + " is static", Modifier.isStatic(inner.getModifiers()));
-            Checks.dueTrue(inner + " is not of the face", (inner.getModifiers() & (Modifier.PUBLIC | Modifier.PROTECTED)) == 0);
+            dueTrue(inner + " is static", Modifier.isStatic(inner.getModifiers()));
+            dueTrue(inner + " is not of the face", (inner.getModifiers() & (Modifier.PUBLIC | Modifier.PROTECTED)) == 0);
             for (Method m : inner.getDeclaredMethods()) {
                 hidden.add(m.getName());
             }
         }
         hidden.retainAll(open);
-        Checks.tell("no other method bears a public name", hidden.toString(), "[]");
+        tell("no other method bears a public name", hidden.toString(), "[]");
         constantsAndConstructors(type);
     }
 
@@ -84,10 +84,10 @@ final class FaceTest {
                 fields.add(Modifier.toString(f.getModifiers()) + " " + f.getType() + " " + f.getName());
             }
         }
-        Checks.tell("the constants", fields.toString(), "[public static final int NONE]");
+        tell("the constants", fields.toString(), "[public static final int NONE]");
         Constructor<?>[] constructors = type.getDeclaredConstructors();
-        Checks.due("the constructors", constructors.length, 1);
-        Checks.tell("the constructor", constructors[0].toString(), "public LevyPhases()");
+        due("the constructors", constructors.length, 1);
+        tell("the constructor", constructors[0].toString(), "public LevyPhases()");
     }
 
     private static String textOf(Method m) {
@@ -106,9 +106,9 @@ final class FaceTest {
     private static void words(String source) {
         String code = source.replaceAll("(?s)/\\*.*?\\*/", "").replaceAll("//[^\n]*", "");
         for (String word : LEFT_OUT) {
-            Checks.due("uses of '" + word + "'", code.split(java.util.regex.Pattern.quote(word), -1).length - 1, 0);
+            due("uses of '" + word + "'", code.split(java.util.regex.Pattern.quote(word), -1).length - 1, 0);
         }
-        Checks.dueTrue("signs 1 to 127 alone", source.chars().allMatch(c -> c >= 1 && c <= 127));
+        dueTrue("signs 1 to 127 alone", source.chars().allMatch(c -> c >= 1 && c <= 127));
     }
 
     /** The rows are made with the object and used again, so that calls make none. */
@@ -126,7 +126,7 @@ final class FaceTest {
             everyCall(x);
         }
         long bytes = threads.getThreadAllocatedBytes(thread) - before;
-        Checks.dueTrue("bytes of some 800 calls: " + bytes, bytes < 4096);
+        dueTrue("bytes of some 800 calls: " + bytes, bytes < 4096);
     }
 
     private static void everyCall(LevyPhases x) {

@@ -1,7 +1,7 @@
 import java.util.Random;
 
 /** Pseudo-random runs of calls, each call on a LevyPhases and on the literal model of the document. */
-final class ModelTest {
+final class ModelTest extends Checks {
     private static final int RUNS = 1500;
     private static final int CALLS = 512;
     private static final String[] ORDERS = {"a", "b", "p", "d"};
@@ -25,7 +25,7 @@ final class ModelTest {
                 run.step(i);
             }
         }
-        Checks.finish("ModelTest");
+        finish("ModelTest");
     }
 
     private void step(int i) {
@@ -42,8 +42,8 @@ final class ModelTest {
         }
     }
 
-    private void both(String call, Checks.Call of, Checks.Call due) {
-        Checks.tell(name + call, Checks.answerOf(of), Checks.answerOf(due));
+    private void both(String call, Call of, Call due) {
+        tell(name + call, answerOf(of), answerOf(due));
     }
 
     /** Mostly a number from 0 to size - 1, sometimes one beside it. */

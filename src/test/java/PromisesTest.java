@@ -1,5 +1,5 @@
 /** Each promise of the document by hand: ordinary inputs, the edges that it names, and wrong inputs. */
-final class PromisesTest {
+final class PromisesTest extends Levies {
     private PromisesTest() {
     }
 
@@ -37,54 +37,7 @@ final class PromisesTest {
         dueIn();
         settledShare();
         digest();
-        Checks.finish("PromisesTest");
-    }
-
-    private static void due(String what, long got, long want) {
-        Checks.due(what, got, want);
-    }
-
-    private static void range(String what, Checks.Call call) {
-        Checks.dueThrown(what, Checks.RANGE, call);
-    }
-
-    private static void index(String what, Checks.Call call) {
-        Checks.dueThrown(what, Checks.INDEX, call);
-    }
-
-    private static void state(String what, Checks.Call call) {
-        Checks.dueThrown(what, Checks.STATE, call);
-    }
-
-    /** A levy with so many phases; phase i has i + 1 times 10 square metres of homes. */
-    private static LevyPhases withPhases(int phases) {
-        LevyPhases x = new LevyPhases();
-        for (int i = 0; i < phases; i++) {
-            x.addPhase();
-            x.area(i, 0, 10 * (i + 1));
-        }
-        return x;
-    }
-
-    /** A levy whose phase 0 has begun on day 0 with a charge less relief of 100 times area. */
-    private static LevyPhases begun(int area) {
-        LevyPhases x = new LevyPhases();
-        x.addPhase();
-        x.area(0, 0, area);
-        x.begin(0);
-        return x;
-    }
-
-    private static void passDays(LevyPhases x, int days) {
-        for (int left = days; left > 0; left -= 99) {
-            x.pass(Math.min(left, 99));
-        }
-    }
-
-    private static void write(LevyPhases x, String text) {
-        for (int i = 0; i < text.length(); i++) {
-            x.append(text.charAt(i));
-        }
+        finish("PromisesTest", args);
     }
 
     private static void newObject() {
@@ -377,16 +330,6 @@ final class PromisesTest {
         due("lapsed so far", y.phase(0, 8), 500);
         due("lapsed money is taken", y.pay(0, 500), 400);
         accounts(y);
-    }
-
-    /** The charge and its surcharges are always paid, land, relief and owed, together. */
-    private static void accounts(LevyPhases x) {
-        for (int p = 0; p < x.count(0); p++) {
-            if (x.phase(p, 0) != LevyPhases.NONE) {
-                due("money that is all accounted for", x.phase(p, 5) + x.phase(p, 6) + x.phase(p, 2) + x.phase(p, 3),
-                        x.phase(p, 1) + x.phase(p, 7));
-            }
-        }
     }
 
     private static void land() {
@@ -1104,7 +1047,7 @@ final class PromisesTest {
     }
 
     private static void share(LevyPhases x, double want) {
-        Checks.tell("settledShare()", Double.toString(x.settledShare()), Double.toString(want));
+        tell("settledShare()", Double.toString(x.settledShare()), Double.toString(want));
     }
 
     private static void settledShare() {
