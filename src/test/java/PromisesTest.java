@@ -1075,104 +1075,76 @@ final class PromisesTest extends Levies {
         share(x, 1.0);
     }
 
-    /** The hash once more, from the answers of the other calls. */
-    private static long hashOf(LevyPhases x, String buffer) {
-        java.util.List<Long> values = new java.util.ArrayList<>();
-        for (int i = 0; i < 16; i++) {
-            values.add((long) x.count(i));
-        }
-        for (int i = 0; i < 4; i++) {
-            values.add((long) x.setting(i));
-        }
-        for (int p = 0; p < x.count(0); p++) {
-            for (int what = 0; what < 14; what++) {
-                values.add((long) x.phase(p, what));
-            }
-            for (int u = 0; u < 4; u++) {
-                for (int what = 0; what < 5; what++) {
-                    values.add((long) x.use(p, u, what));
-                }
-                values.add((long) x.whyNot(4, p, u));
-            }
-            for (int i = 0; i < 12; i++) {
-                values.add((long) x.instalment(p, i / 3, i % 3));
-            }
-            for (int what = 0; what < 4; what++) {
-                values.add((long) x.whyNot(what, p, 0));
-            }
-            for (int what = 0; what < 3; what++) {
-                values.add((long) x.ifBegun(p, what));
-            }
-            values.add((long) x.breaksIn(p));
-            values.add((long) x.dueIn(p, 100));
-        }
-        values.add((long) x.surchargesIn(200));
-        values.add((long) x.mostUrgent());
-        values.add(Double.doubleToLongBits(x.settledShare()));
-        values.add((long) buffer.length());
-        for (char c : buffer.toCharArray()) {
-            values.add((long) c);
-        }
-        long hash = 2591;
-        for (long value : values) {
-            hash = 31 * hash + value;
-        }
-        return hash;
-    }
-
     private static void digest() {
-        LevyPhases x = new LevyPhases();
-        due("new digest()", x.digest(), hashOf(x, ""));
-        write(x, "~a!");
-        due("digest() with a buffer", x.digest(), hashOf(x, "~a!"));
-        LevyPhases y = withPhases(6);
-        y.clearBuffer();
-        due("digest() of six phases", y.digest(), hashOf(y, ""));
-        y.exempt(1, 0, 3);
-        y.begin(1);
-        y.begin(5);
-        due("a share of 0.0", y.digest(), hashOf(y, ""));
-        for (int i = 0; i < 40; i++) {
-            y.pay(5, 1 + 3 * i);
-            due("any share", y.digest(), hashOf(y, ""));
+        Hashes.digestDue("new digest()", "", LevyPhases::new);
+        Hashes.digestDue("digest() with a buffer", "~a!", () -> having(new LevyPhases(), "~a!"));
+        Hashes.digestDue("digest() of six phases", "", () -> withPhases(6));
+        for (int payments = 0; payments <= 40; payments++) {
+            int some = payments;
+            Hashes.digestDue("digest() of any share", "", () -> twoBegun(some, 0));
         }
-        y.lapse(1, 0);
-        y.pass(61);
-        due("broken phases", y.digest(), hashOf(y, ""));
-        due("asked again", y.digest(), y.digest());
+        Hashes.digestDue("digest() of broken phases", "", () -> twoBegun(3, 61));
+        LevyPhases y = twoBegun(3, 61);
+        due("digest() asked again", y.digest(), y.digest());
         due("digest() saves nothing", y.count(15), 6);
-
-        digestDays();
-        LevyPhases z = new LevyPhases();
-        z.addPhase();
-        for (int u = 0; u < 4; u++) {
-            z.area(0, u, 999);
-            z.rate(u, 999);
-        }
-        z.begin(0);
-        z.pay(0, 1);
-        due("the smallest share of one phase", z.digest(), hashOf(z, ""));
+        Hashes.digestDue("the smallest share of one phase", "", PromisesTest::mostOwed);
+        LevyPhases z = mostOwed();
         z.set(1, 50);
         z.pass(61);
         due("the most that can be owed", z.phase(0, 3), 3992003 + 3992003 / 2);
         z.set(3, 100);
         due("the most room", z.phase(0, 13), 3992004);
-        due("large numbers", z.digest(), hashOf(z, ""));
+        Hashes.digestDue("large numbers", "", () -> {
+            LevyPhases x = mostOwed();
+            x.pass(61);
+            return x;
+        });
+        digestDays();
+    }
+
+    /** Six phases, of which two have begun; then so many payments, a lapse, and days. */
+    private static LevyPhases twoBegun(int payments, int days) {
+        LevyPhases x = withPhases(6);
+        x.exempt(1, 0, 3);
+        x.begin(1);
+        x.begin(5);
+        for (int i = 0; i < payments; i++) {
+            x.pay(5, 1 + 3 * i);
+        }
+        x.lapse(1, 0);
+        passDays(x, days);
+        return x;
+    }
+
+    private static LevyPhases mostOwed() {
+        LevyPhases x = new LevyPhases();
+        x.addPhase();
+        for (int u = 0; u < 4; u++) {
+            x.area(0, u, 999);
+            x.rate(u, 999);
+        }
+        x.begin(0);
+        x.pay(0, 1);
+        return x;
     }
 
     /** Days on which 100 and 200 days are just enough, and a day before. */
     private static void digestDays() {
-        LevyPhases x = withPhases(2);
-        x.set(0, 100);
-        x.begin(0);
-        due("due in 100 days", x.digest(), hashOf(x, ""));
-        x.pay(0, 500);
-        due("200 days and one more to the break", x.breaksIn(0), 201);
-        due("no surcharge in 200 days", x.digest(), hashOf(x, ""));
-        x.pass(1);
-        due("a surcharge in 200 days", x.digest(), hashOf(x, ""));
-        x.set(0, 101);
-        x.begin(1);
-        due("due in 101 days", x.digest(), hashOf(x, ""));
+        for (int between = 99; between <= 102; between++) {
+            int days = between;
+            Making due = () -> {
+                LevyPhases x = withPhases(2);
+                x.set(0, days);
+                x.begin(0);
+                return x;
+            };
+            Making dueTwice = () -> {
+                LevyPhases x = due.made();
+                x.pay(0, 500);
+                return x;
+            };
+            Hashes.digestDue("due in " + days + " days", "", due);
+            Hashes.digestDue("due in twice " + days + " days", "", dueTwice);
+        }
     }
 }
