@@ -192,7 +192,10 @@ public final class LevyPhases {
         if (savedCount == 0) {
             throw new IllegalStateException("there is no saved state");
         }
-        nextSaved = nextSaved == 0 ? MOST_SAVED - 1 : nextSaved - 1;
+        nextSaved--;
+        if (nextSaved < 0 || nextSaved >= MOST_SAVED) {
+            nextSaved = MOST_SAVED - 1;
+        }
         savedCount--;
         levy.copyFrom(saved[nextSaved]);
         return savedCount;
@@ -302,7 +305,7 @@ public final class LevyPhases {
     public int surchargesIn(int days) throws IllegalArgumentException {
         demandRange(days, 0, MOST_DAYS_AHEAD);
         int sum = 0;
-        for (int i = 0; i < levy.phaseCount; i++) {
+        for (int i = 0; i < levy.phaseCount && i < MOST_PHASES; i++) {
             sum += levy.surchargeWithin(i, days);
         }
         return sum;
@@ -312,7 +315,7 @@ public final class LevyPhases {
         int found = NONE;
         int foundDays = 0;
         int foundOwed = 0;
-        for (int i = 0; i < levy.phaseCount; i++) {
+        for (int i = 0; i < levy.phaseCount && i < MOST_PHASES; i++) {
             int days = levy.daysToBreak(i);
             int owed = levy.phases[i].owed();
             boolean moreUrgent = found == NONE || days < foundDays || days == foundDays && owed > foundOwed;
@@ -348,7 +351,7 @@ public final class LevyPhases {
         for (int i = 0; i < SETTINGS; i++) {
             hash = 31L * hash + levy.settings[i];
         }
-        for (int i = 0; i < levy.phaseCount; i++) {
+        for (int i = 0; i < levy.phaseCount && i < MOST_PHASES; i++) {
             hash = hashOfPhase(hash, i);
         }
         hash = 31L * hash + surchargesIn(200);
@@ -403,8 +406,11 @@ public final class LevyPhases {
     }
 
     private void saveState() {
+        if (nextSaved < 0 || nextSaved >= MOST_SAVED) {
+            nextSaved = 0;
+        }
         saved[nextSaved].copyFrom(levy);
-        nextSaved = nextSaved == MOST_SAVED - 1 ? 0 : nextSaved + 1;
+        nextSaved++;
         if (savedCount < MOST_SAVED) {
             savedCount++;
         }

@@ -8,6 +8,7 @@ final class AskingEdgesTest extends Levies {
     public static void main(String[] args) {
         nothingIsThere();
         unbegunPhase();
+        usesOfEachPhase();
         begunPhase();
         settledPhase();
         countsOfBegunPhasesOnly();
@@ -77,6 +78,29 @@ final class AskingEdgesTest extends Levies {
         y.addPhase();
         sentence("Adds a phase without areas.");
         properties(y, 0, NONE, 0, 0, 0, 0, 0, 0, 0, 0, 0, 0, 0, 0);
+    }
+
+    private static void usesOfEachPhase() {
+        sentence("0: its area; 1: its exempt area; 2: its rate (the fixed one, if the phase has begun); 3: its charge; "
+                + "4: its relief that has not lapsed");
+        LevyPhases x = new LevyPhases();
+        for (int p = 0; p < 6; p++) {
+            x.addPhase();
+            x.area(p, p % 4, 100 + p);
+            x.exempt(p, p % 4, 10 + p);
+            x.rate(p % 4, 2 + p);
+            x.begin(p);
+        }
+        x.lapse(3, 3);
+        x.rate(0, 999);
+        for (int p = 0; p < 6; p++) {
+            int rate = 2 + p;
+            int[] want = {100 + p, 10 + p, rate, (100 + p) * rate, p == 3 ? 0 : (10 + p) * rate};
+            for (int what = 0; what < 5; what++) {
+                due("use(" + p + ", " + p % 4 + ", " + what + ")", x.use(p, p % 4, what), want[what]);
+                due("a use without an area", what == 2 ? 0 : x.use(p, (p + 1) % 4, what), 0);
+            }
+        }
     }
 
     private static void begunPhase() {

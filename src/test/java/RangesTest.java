@@ -202,6 +202,15 @@ final class RangesTest extends Levies {
             due("exempt of area " + areas[i], x.use(0, 2, 1), exempts[i]);
             due("the other use stays", x.use(0, 1, 1), 10);
         }
+        LevyPhases y = halfExempt(2);
+        for (int use = 0; use < 4; use++) {
+            y.exempt(1, use, 2 * use + 1);
+        }
+        for (int use = 0; use < 4; use++) {
+            y.area(1, use, 4);
+            due("at most 4 of use " + use, y.use(1, use, 1), Math.min(2 * use + 1, 4));
+            due("the other phase stays", y.use(0, use, 1), 10);
+        }
     }
 
     private static void exemptAreas() {
@@ -223,6 +232,15 @@ final class RangesTest extends Levies {
             due("exempt() of nothing", x.exempt(0, 1, 0), area);
             due("nothing is exempt", x.use(0, 1, 1), 0);
         }
+        Making ofTwo = () -> withPhases(2);
+        ends("exempt of a smaller phase", 0, 10, RANGE, ofTwo, (x, exempt) -> x.exempt(0, 0, exempt));
+        ends("exempt of a larger phase", 0, 20, RANGE, ofTwo, (x, exempt) -> x.exempt(1, 0, exempt));
+        Making empty = () -> {
+            LevyPhases x = withPhases(1);
+            x.addPhase();
+            return x;
+        };
+        ends("exempt of a phase without an area", 0, 0, RANGE, empty, (x, exempt) -> x.exempt(1, 0, exempt));
     }
 
     private static void rates() {

@@ -322,6 +322,11 @@ final class TextEdgesTest extends Levies {
         due("not begun", carriedOut("p0:1;d1", 0).count(3), 0);
         due("begun before", carriedOut("b0;p0:1;d1", 3).phase(0, 5), 1);
         due("a phase that is not there", carriedOut("p2:1;d1", 0).count(3), 0);
+        LevyPhases x = begun(10);
+        x.set(3, 0);
+        write(x, "p0:7;d1");
+        due("money needs no room for land", x.run(), 2);
+        due("it is paid", x.phase(0, 5), 7);
     }
 
     private static void runOfDays() {

@@ -101,15 +101,16 @@ final class UndoEdgesTest extends Levies {
         due("its area is not", x.phase(0, 12), 0);
     }
 
-    /** Two phases, of which phase 0 has begun, and phase 1 not; five states are saved. */
+    /** Two phases, of which phase 0 has begun and is paid in part, and phase 1 not; five states are saved. */
     private static LevyPhases fiveSaved() {
         LevyPhases x = new LevyPhases();
         x.addPhase();
         x.addPhase();
-        write(x, "a00=20;a01=20;a10=30;a11=40;p0:1");
+        write(x, "a00=20;a01=20;a10=30;a11=40");
         x.run();
         x.exempt(0, 0, 10);
-        x.begin(0);
+        write(x, "b0;p0:1201");
+        x.run();
         return x;
     }
 
