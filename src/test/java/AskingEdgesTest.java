@@ -14,6 +14,7 @@ final class AskingEdgesTest extends Levies {
         countsOfBegunPhasesOnly();
         countsOfSixPhases();
         noSuchInstalment();
+        instalmentsOfEachPhase();
         breaksInDays();
         neverBroken();
         surchargesInDays();
@@ -179,6 +180,28 @@ final class AskingEdgesTest extends Levies {
                     dueTrue("instalment " + k + " of " + sums[i], x.instalment(0, k, what) == NONE == k >= numbers[i]);
                 }
             }
+        }
+    }
+
+    private static void instalmentsOfEachPhase() {
+        sentence("0: its sum; 1: what is open of it; 2: the day through which it is due");
+        LevyPhases x = withPhases(6);
+        for (int p = 0; p < 6; p++) {
+            x.set(0, 10 + p);
+            x.begin(p);
+            x.pay(p, 100 + p);
+        }
+        int[] firsts = {500, 1000, 1500, 2000, 1666, 2000};
+        int[] lasts = {500, 1000, 1500, 2000, 1668, 2000};
+        for (int p = 0; p < 6; p++) {
+            int last = p < 4 ? 1 : 2;
+            due("the first sum of " + p, x.instalment(p, 0, 0), firsts[p]);
+            due("what is open of it", x.instalment(p, 0, 1), firsts[p] - 100 - p);
+            due("its day", x.instalment(p, 0, 2), 10 + p);
+            due("the last sum of " + p, x.instalment(p, last, 0), lasts[p]);
+            due("what is open of the last", x.instalment(p, last, 1), lasts[p]);
+            due("the last day", x.instalment(p, last, 2), (10 + p) * (last + 1));
+            due("none behind it", x.instalment(p, last + 1, 0), NONE);
         }
     }
 
