@@ -2,8 +2,9 @@ import java.io.IOException;
 import java.io.UncheckedIOException;
 import java.nio.file.Files;
 import java.nio.file.Path;
-import java.util.ArrayList;
-import java.util.List;
+import java.nio.file.StandardOpenOption;
+import java.util.LinkedHashSet;
+import java.util.Set;
 
 /** Counts what is not as due; every test of the project extends it and ends with {@link #finish}. */
 abstract class Checks {
@@ -16,13 +17,21 @@ abstract class Checks {
         long answer();
     }
 
-    private static final List<String> quoted = new ArrayList<>();
+    /** What is quoted of the document, each time behind the number of its promise, or 0 for any place. */
+    private static final Set<String> quoted = new LinkedHashSet<>();
+    private static String latestQuote = "";
     private static int looked = 0;
     private static int wrong = 0;
 
     /** The words of the document that the answers that follow are due by. */
     static void sentence(String words) {
-        quoted.add(words);
+        promise(0, words);
+    }
+
+    /** The same, of the section of a promise. */
+    static void promise(int number, String words) {
+        quoted.add(number + "\t" + words);
+        latestQuote = words;
     }
 
     static void due(String what, long got, long want) {
@@ -63,16 +72,20 @@ abstract class Checks {
         if (!got.equals(want)) {
             wrong++;
             if (wrong <= 50) {
-                String by = quoted.isEmpty() ? "" : " (\"" + quoted.get(quoted.size() - 1) + "\")";
+                String by = latestQuote.isEmpty() ? "" : " (\"" + latestQuote + "\")";
                 System.out.println(what + " answered " + got + ", due is " + want + by);
             }
         }
     }
 
-    /** The second argument of a test is the document, in which the quoted words have to stand. */
+    /**
+     * The second argument of a test is the document, in which the quoted words have to stand; the third one is a file
+     * to which they are added, so that {@link Unquoted} can find what no test quotes.
+     */
     static void finish(String test, String... args) {
-        if (args.length > 1) {
-            lookForQuotes(args[1]);
+        if (args.length > 2) {
+            lookForQuotes(new Document(args[1]));
+            addQuotesTo(args[2]);
         }
         System.out.println(test + ": " + looked + " answers, " + wrong + " not as due");
         if (wrong != 0 || looked == 0) {
@@ -80,12 +93,15 @@ abstract class Checks {
         }
     }
 
-    private static void lookForQuotes(String document) {
+    private static void lookForQuotes(Document document) {
+        for (String quote : quoted) {
+            dueTrue("the document says: " + quote, document.hasQuote(quote));
+        }
+    }
+
+    private static void addQuotesTo(String file) {
         try {
-            String words = Files.readString(Path.of(document)).replace("`", "");
-            for (String quote : quoted) {
-                dueTrue("the document says: " + quote, words.contains(quote));
-            }
+            Files.write(Path.of(file), quoted, StandardOpenOption.CREATE, StandardOpenOption.APPEND);
         } catch (IOException e) {
             throw new UncheckedIOException(e);
         }

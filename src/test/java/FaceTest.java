@@ -8,6 +8,8 @@ import java.nio.file.Files;
 import java.nio.file.Path;
 import java.util.Set;
 import java.util.TreeSet;
+import java.util.regex.Matcher;
+import java.util.regex.Pattern;
 
 /** The public face of the class, the words that its language leaves out, and the room that its calls take. */
 final class FaceTest extends Checks {
@@ -27,6 +29,15 @@ final class FaceTest extends Checks {
         face("int dueIn(int,int)", I, A), face("double settledShare()"), face("long digest()"),
     };
 
+    private static final String[][] GROUPS = {
+        {"phases, areas, rates", "addPhase, area, exempt, rate, set"},
+        {"money", "begin, pay, land, lapse, pass"},
+        {"texts", "append, clearBuffer, firstError, run, undo"},
+        {"what there is", "phase, use, instalment, count, setting"},
+        {"what would be; nothing is changed, and the limit of days does not matter",
+            "whyNot, ifBegun, breaksIn, surchargesIn, mostUrgent, dueIn, settledShare, digest"},
+    };
+
     private static final String[] LEFT_OUT = {
         "import ", "package ", "->", "::", "System.out", "System.err", "System.nano", "System.current", "System.get",
         "Double.", "Float.", "Exact(", "catch", "finally", "synchronized", "assert ", "instanceof", "Throwable",
@@ -39,10 +50,12 @@ final class FaceTest extends Checks {
     public static void main(String[] args) throws IOException {
         members();
         if (args.length > 0) {
-            words(Files.readString(Path.of(args[0])));
+            String source = Files.readString(Path.of(args[0]));
+            words(source);
+            groupsOfCalls(source);
         }
         room();
-        finish("FaceTest");
+        finish("FaceTest", args);
     }
 
     private static String face(String head, String... thrown) {
@@ -106,9 +119,27 @@ final class FaceTest extends Checks {
     private static void words(String source) {
         String code = source.replaceAll("(?s)/\\*.*?\\*/", "").replaceAll("//[^\n]*", "");
         for (String word : LEFT_OUT) {
-            due("uses of '" + word + "'", code.split(java.util.regex.Pattern.quote(word), -1).length - 1, 0);
+            due("uses of '" + word + "'", code.split(Pattern.quote(word), -1).length - 1, 0);
         }
         dueTrue("signs 1 to 127 alone", source.chars().allMatch(c -> c >= 1 && c <= 127));
+    }
+
+    /** The calls stand in the document's order, and each group of them behind its comment. */
+    private static void groupsOfCalls(String source) {
+        StringBuilder want = new StringBuilder();
+        for (String[] group : GROUPS) {
+            sentence("Ahead of the calls " + group[1] + " the interface says: ---- " + group[0] + ".");
+            want.append("---- ").append(group[0]).append('\n');
+            for (String call : group[1].split(", ")) {
+                want.append(call).append('\n');
+            }
+        }
+        StringBuilder found = new StringBuilder();
+        Matcher line = Pattern.compile("(?m)^    (?:// (----.*)|public \\w+ (\\w+)\\(.*)$").matcher(source);
+        while (line.find()) {
+            found.append(line.group(1) == null ? line.group(2) : line.group(1)).append('\n');
+        }
+        tell("the calls and the comments ahead of them", found.toString(), want.toString());
     }
 
     /** The rows are made with the object and used again, so that calls make none. */

@@ -289,7 +289,7 @@ final class UndoEdgesTest extends Levies {
     }
 
     private static void manyCalls() {
-        sentence("An object is used for at most 512 calls after it has been made");
+        sentence("An object is used for at most 512 calls after it has been made; what later calls answer is free.");
         LevyPhases x = new LevyPhases();
         for (int i = 0; i < 500; i++) {
             x.rate(2, i);
